@@ -254,6 +254,10 @@ public final class ScanTest {
         Video.bytes(y, 128, 255, 208);
         y.scan();
         lineIs("X 24 - 32, 25 - 32, 63, 64", line(y, 0, 0, 64), "5" + "7".repeat(62) + "6");
+        SlotScreen v = withSprites(0, 255, 40, 0, 127, 255, 40, 0, 128 + 1, 208);
+        Video.bytes(v, 128, 0xC0);
+        v.scan();
+        lineIs("C 127 and 129", line(v, 0, 0, 64), "7".repeat(8) + "11" + "7".repeat(30) + "ff" + "7".repeat(22));
         SlotScreen z = withSprites(0, 255, 255, 0, 4, 255, 95, 0, 255, 255, 32, 0, 128 + 6, 208);
         Video.bytes(z, 128, 255);
         z.scan();
