@@ -37,21 +37,6 @@ public final class ScanTest {
         return x;
     }
 
-    /** The pixels of a line, a hexadecimal digit each, between two columns. */
-    private static String line(SlotScreen x, int y, int from, int to) {
-        StringBuilder s = new StringBuilder();
-        for (int c = from; c < to; c++) {
-            s.append(Integer.toHexString(x.pixel(c, y)));
-        }
-        return s.toString();
-    }
-
-    private static void lineIs(String what, String got, String want) {
-        if (!got.equals(want)) {
-            DUE.tell(what + ": " + got + ", due is " + want);
-        }
-    }
-
     private static void linesGoRound() {
         SlotScreen x = new SlotScreen();
         for (int i = 0; i < 100; i++) {
@@ -88,11 +73,11 @@ public final class ScanTest {
         Video.register(x, 1, 255 - 64);
         Video.register(x, 7, 0xF6);
         x.scan();
-        lineIs("blank", line(x, 0, 0, 64), "6".repeat(64));
+        DUE.is("blank", Video.line(x, 0, 0, 64), "6".repeat(64));
         DUE.is("no status", x.chip(8), 0);
         Video.register(x, 1, 64);
         x.scan();
-        lineIs("shown", line(x, 1, 0, 9), "111111116");
+        DUE.is("shown", Video.line(x, 1, 0, 9), "111111116");
         DUE.is("status", x.chip(8), 64 + 32 + 4);
     }
 
@@ -136,13 +121,13 @@ public final class ScanTest {
         Video.bytes(x, 255, 0x3C);
         Video.bytes(x, 256, 0x12, 0x34, 0x56, 0x89);
         Video.scan(x, 32);
-        lineIs("line 7", line(x, 7, 0, 64), "2".repeat(64));
-        lineIs("line 8", line(x, 8, 0, 64), "12222222" + "12222222" + "88889999" + "88889999"
+        DUE.is("line 7", Video.line(x, 7, 0, 64), "2".repeat(64));
+        DUE.is("line 8", Video.line(x, 8, 0, 64), "12222222" + "12222222" + "88889999" + "88889999"
                 + "2".repeat(24) + "33333333");
-        lineIs("line 9", line(x, 9, 0, 32), "22222221" + "22222221" + "99998888" + "99998888");
-        lineIs("line 10", line(x, 10, 0, 16), "1212212112122121");
-        lineIs("line 15", line(x, 15, 16, 32), "9988889999888899");
-        lineIs("line 31", line(x, 31, 48, 64), "2222222299888899");
+        DUE.is("line 9", Video.line(x, 9, 0, 32), "22222221" + "22222221" + "99998888" + "99998888");
+        DUE.is("line 10", Video.line(x, 10, 0, 16), "1212212112122121");
+        DUE.is("line 15", Video.line(x, 15, 16, 32), "9988889999888899");
+        DUE.is("line 31", Video.line(x, 31, 48, 64), "2222222299888899");
     }
 
     private static void tileTables() {
@@ -162,21 +147,21 @@ public final class ScanTest {
         Video.bytes(x, 256, 0xAA);
         Video.bytes(x, 256 + 64, 0xF0);
         x.scan();
-        lineIs("tables at the end", line(x, 0, 0, 16), "3333444412121212");
+        DUE.is("tables at the end", Video.line(x, 0, 0, 16), "3333444412121212");
         Video.register(x, 4, 254);
         Video.bytes(x, 64, 0, 0x0F);
         x.scan();
-        lineIs("patterns at 0", line(x, 1, 0, 8), "44443333");
+        DUE.is("patterns at 0", Video.line(x, 1, 0, 8), "44443333");
         Video.register(x, 2, 16 + 4);
         Video.bytes(x, 128, 8);
         Video.bytes(x, 66, 0x81);
         x.scan();
-        lineIs("names at 128", line(x, 2, 0, 8), "34444443");
+        DUE.is("names at 128", Video.line(x, 2, 0, 8), "34444443");
         Video.register(x, 3, 128 + 20);
         Video.bytes(x, 81, 0x65);
         Video.bytes(x, 67, 0x18);
         x.scan();
-        lineIs("colors at 80", line(x, 3, 0, 8), "55566555");
+        DUE.is("colors at 80", Video.line(x, 3, 0, 8), "55566555");
     }
 
     private static void tileColorZero() {
@@ -187,11 +172,11 @@ public final class ScanTest {
         Video.bytes(x, 128, 0xF0);
         Video.bytes(x, 256, 0x10, 0x02, 0x00);
         x.scan();
-        lineIs("color 0", line(x, 0, 0, 24), "1111777777772222" + "77777777");
+        DUE.is("color 0", Video.line(x, 0, 0, 24), "1111777777772222" + "77777777");
         Video.register(x, 7, 0x30);
         Video.bytes(x, 1, 0xF0);
         x.scan();
-        lineIs("back color 0", line(x, 1, 0, 8), "11110000");
+        DUE.is("back color 0", Video.line(x, 1, 0, 8), "11110000");
     }
 
     private static void linesKeepWhatTheyHad() {
@@ -247,31 +232,31 @@ public final class ScanTest {
         SlotScreen x = withSprites(0, 255, 60, 0, 4, 0, 31, 0, 128 + 5, 208);
         Video.bytes(x, 128, 0x9F, 0x9F, 0x81);
         x.scan();
-        lineIs("X 60", line(x, 0, 0, 64), "7".repeat(60) + "4774");
+        DUE.is("X 60", Video.line(x, 0, 0, 64), "7".repeat(60) + "4774");
         x.scan();
-        lineIs("X 31 - 32", line(x, 1, 0, 64), "7755555" + "7".repeat(53) + "4774");
+        DUE.is("X 31 - 32", Video.line(x, 1, 0, 64), "7755555" + "7".repeat(53) + "4774");
         SlotScreen y = withSprites(0, 255, 24, 0, 128 + 4, 255, 25, 0, 128 + 5, 255, 63, 0, 6, 255, 64, 0, 8);
         Video.bytes(y, 128, 255, 208);
         y.scan();
-        lineIs("X 24 - 32, 25 - 32, 63, 64", line(y, 0, 0, 64), "5" + "7".repeat(62) + "6");
+        DUE.is("X 24 - 32, 25 - 32, 63, 64", Video.line(y, 0, 0, 64), "5" + "7".repeat(62) + "6");
         SlotScreen v = withSprites(0, 255, 40, 0, 127, 255, 40, 0, 128 + 1, 208);
         Video.bytes(v, 128, 0xC0);
         v.scan();
-        lineIs("C 127 and 129", line(v, 0, 0, 64), "7".repeat(8) + "11" + "7".repeat(30) + "ff" + "7".repeat(22));
+        DUE.is("C 127 and 129", Video.line(v, 0, 0, 64), "7".repeat(8) + "11" + "7".repeat(30) + "ff" + "7".repeat(22));
         SlotScreen z = withSprites(0, 255, 255, 0, 4, 255, 95, 0, 255, 255, 32, 0, 128 + 6, 208);
         Video.bytes(z, 128, 255);
         z.scan();
-        lineIs("X 255, 95 - 32, 32 - 32", line(z, 0, 0, 64), "66666666" + "7".repeat(55) + "f");
+        DUE.is("X 255, 95 - 32, 32 - 32", Video.line(z, 0, 0, 64), "66666666" + "7".repeat(55) + "f");
     }
 
     private static void spriteEnd() {
         SlotScreen x = withSprites(0, 255, 0, 0, 1, 208, 8, 0, 2, 255, 16, 0, 3, 255, 24, 0, 4);
         Video.bytes(x, 128, 255, 255);
         x.scan();
-        lineIs("208 ends", line(x, 0, 0, 32), "11111111" + "7".repeat(24));
+        DUE.is("208 ends", Video.line(x, 0, 0, 32), "11111111" + "7".repeat(24));
         Video.bytes(x, 260, 209);
         x.scan();
-        lineIs("209 does not", line(x, 1, 0, 32), "11111111" + "77777777" + "33333333" + "44444444");
+        DUE.is("209 does not", Video.line(x, 1, 0, 32), "11111111" + "77777777" + "33333333" + "44444444");
         // Sprite 7 is the last; the four bytes behind it are no sprite.
         SlotScreen y = withSprites(0);
         Video.bytes(y, 256 + 28, 255, 0, 0, 5, 255, 8, 0, 6);
@@ -280,7 +265,7 @@ public final class ScanTest {
         }
         Video.bytes(y, 128, 255);
         y.scan();
-        lineIs("sprite 7", line(y, 0, 0, 16), "5555555577777777");
+        DUE.is("sprite 7", Video.line(y, 0, 0, 16), "5555555577777777");
         // 208 in the first place, before four that would be on the line.
         SlotScreen z = withSprites(0, 208, 0, 0, 1, 255, 0, 0, 1, 255, 0, 0, 1, 255, 0, 0, 1, 255, 0, 0, 1, 255, 0, 0, 1);
         Video.bytes(z, 128, 255);
@@ -297,16 +282,16 @@ public final class ScanTest {
         Video.bytes(x, 480, 255, 0, 16 + 2, 0x71, 208);
         Video.bytes(x, 384 + 16, 0xC3, 0x3C, 0x01);
         x.scan();
-        lineIs("tables at the end", line(x, 0, 0, 9), "110000110");
+        DUE.is("tables at the end", Video.line(x, 0, 0, 9), "110000110");
         Video.register(x, 6, 252 + 2);
         Video.bytes(x, 256 + 16, 0, 0xA5);
         x.scan();
-        lineIs("patterns at 256", line(x, 1, 0, 9), "101001010");
+        DUE.is("patterns at 256", Video.line(x, 1, 0, 9), "101001010");
         Video.register(x, 5, 16 + 6);
         Video.bytes(x, 192, 255, 1, 15, 9, 208);
         Video.bytes(x, 256 + 8 * 15 + 2, 0x11);
         x.scan();
-        lineIs("sprites at 192", line(x, 2, 0, 9), "000090009");
+        DUE.is("sprites at 192", Video.line(x, 2, 0, 9), "000090009");
     }
 
     private static void largeSprites() {
@@ -316,11 +301,11 @@ public final class ScanTest {
             Video.bytes(x, 160, 0x80, 0xF0, 3, 4, 5, 6, 7, 8, 9, 10, 11, 12, 13, 14, 15, 0x0F,
                     0x01, 0xAA, 2, 3, 4, 5, 6, 7, 8, 9, 10, 11, 12, 13, 14, 0xFF);
             Video.scan(x, 20);
-            lineIs("line 1", line(x, 1, 9, 27), "7".repeat(18));
-            lineIs("line 2", line(x, 2, 9, 27), "747777777777777747");
-            lineIs("line 3", line(x, 3, 9, 27), "744447777474747477");
-            lineIs("line 17", line(x, 17, 9, 27), "77777" + "4".repeat(12) + "7");
-            lineIs("line 18", line(x, 18, 9, 27), "7".repeat(18));
+            DUE.is("line 1", Video.line(x, 1, 9, 27), "7".repeat(18));
+            DUE.is("line 2", Video.line(x, 2, 9, 27), "747777777777777747");
+            DUE.is("line 3", Video.line(x, 3, 9, 27), "744447777474747477");
+            DUE.is("line 17", Video.line(x, 17, 9, 27), "77777" + "4".repeat(12) + "7");
+            DUE.is("line 18", Video.line(x, 18, 9, 27), "7".repeat(18));
         }
     }
 
@@ -328,23 +313,23 @@ public final class ScanTest {
         SlotScreen x = withSprites(1, 3, 5, 1, 4, 208);
         Video.bytes(x, 136, 0x81, 0xA0, 0, 0, 0, 0, 0, 0xFF, 0xFF);
         Video.scan(x, 24);
-        lineIs("line 3", line(x, 3, 4, 22), "7".repeat(18));
-        lineIs("line 4", line(x, 4, 4, 22), "744777777777777447");
-        lineIs("line 5", line(x, 5, 4, 22), "744777777777777447");
-        lineIs("line 6", line(x, 6, 4, 22), "744774477777777777");
-        lineIs("line 7", line(x, 7, 4, 22), "744774477777777777");
-        lineIs("line 8", line(x, 8, 4, 22), "7".repeat(18));
-        lineIs("line 19", line(x, 19, 4, 22), "7" + "4".repeat(16) + "7");
-        lineIs("line 20", line(x, 20, 4, 22), "7".repeat(18));
+        DUE.is("line 3", Video.line(x, 3, 4, 22), "7".repeat(18));
+        DUE.is("line 4", Video.line(x, 4, 4, 22), "744777777777777447");
+        DUE.is("line 5", Video.line(x, 5, 4, 22), "744777777777777447");
+        DUE.is("line 6", Video.line(x, 6, 4, 22), "744774477777777777");
+        DUE.is("line 7", Video.line(x, 7, 4, 22), "744774477777777777");
+        DUE.is("line 8", Video.line(x, 8, 4, 22), "7".repeat(18));
+        DUE.is("line 19", Video.line(x, 19, 4, 22), "7" + "4".repeat(16) + "7");
+        DUE.is("line 20", Video.line(x, 20, 4, 22), "7".repeat(18));
         SlotScreen y = withSprites(3, 255, 31, 3, 132, 208);
         Video.bytes(y, 128, 0x80, 0xC0, 0, 0, 0, 0, 0, 0, 0, 0, 0, 0, 0, 0, 0, 0xC0,
                 0x01, 0x80, 0, 0, 0, 0, 0, 0, 0, 0, 0, 0, 0, 0, 0, 0x01);
         Video.scan(y, 32);
-        lineIs("large line 0", line(y, 0, 0, 34), "4" + "7".repeat(28) + "44777");
-        lineIs("large line 2", line(y, 2, 0, 34), "444" + "7".repeat(12) + "44" + "7".repeat(17));
-        lineIs("large line 3", line(y, 3, 0, 34), "444" + "7".repeat(12) + "44" + "7".repeat(17));
-        lineIs("large line 31", line(y, 31, 0, 34), "444" + "7".repeat(26) + "44777");
-        lineIs("large line 29", line(y, 29, 0, 34), "7".repeat(34));
+        DUE.is("large line 0", Video.line(y, 0, 0, 34), "4" + "7".repeat(28) + "44777");
+        DUE.is("large line 2", Video.line(y, 2, 0, 34), "444" + "7".repeat(12) + "44" + "7".repeat(17));
+        DUE.is("large line 3", Video.line(y, 3, 0, 34), "444" + "7".repeat(12) + "44" + "7".repeat(17));
+        DUE.is("large line 31", Video.line(y, 31, 0, 34), "444" + "7".repeat(26) + "44777");
+        DUE.is("large line 29", Video.line(y, 29, 0, 34), "7".repeat(34));
     }
 
     private static void fourOnALine() {
@@ -352,11 +337,11 @@ public final class ScanTest {
                 255, 40, 0, 6, 255, 48, 0, 8);
         Video.bytes(x, 128, 255, 255, 255);
         x.scan();
-        lineIs("four of six", line(x, 0, 0, 64), "1111111122222222333333334444444477777777" + "7".repeat(24));
+        DUE.is("four of six", Video.line(x, 0, 0, 64), "1111111122222222333333334444444477777777" + "7".repeat(24));
         DUE.is("the fifth is 6", x.chip(8), 64 + 6);
         x.in(1);
         x.scan();
-        lineIs("four of seven", line(x, 1, 0, 64), "1111111122222222333333334444444477777777" + "7".repeat(24));
+        DUE.is("four of seven", Video.line(x, 1, 0, 64), "1111111122222222333333334444444477777777" + "7".repeat(24));
         DUE.is("the fifth is 5", x.chip(8), 64 + 5);
         SlotScreen y = withSprites(0, 255, 0, 0, 1, 255, 8, 0, 2, 255, 16, 0, 3, 255, 24, 0, 4, 208);
         Video.bytes(y, 128, 255, 255, 255);
@@ -440,14 +425,14 @@ public final class ScanTest {
         SlotScreen x = withSprites(0, 255, 0, 0, 0, 255, 2, 0, 2, 255, 4, 0, 0x70, 255, 6, 0, 0x74, 208);
         Video.bytes(x, 128, 255, 0x80);
         x.scan();
-        lineIs("color 0 is seen through", line(x, 0, 0, 16), "7722222222444477");
+        DUE.is("color 0 is seen through", Video.line(x, 0, 0, 16), "7722222222444477");
         x.scan();
-        lineIs("single columns", line(x, 1, 0, 16), "7727774777777777");
+        DUE.is("single columns", Video.line(x, 1, 0, 16), "7727774777777777");
         SlotScreen y = withSprites(0, 255, 0, 0, 3, 255, 4, 0, 5, 208);
         Video.bytes(y, 128, 255, 0xF0);
         y.scan();
-        lineIs("the first is before", line(y, 0, 0, 13), "3333333355557");
+        DUE.is("the first is before", Video.line(y, 0, 0, 13), "3333333355557");
         y.scan();
-        lineIs("where it has a bit", line(y, 1, 0, 13), "3333555577777");
+        DUE.is("where it has a bit", Video.line(y, 1, 0, 13), "3333555577777");
     }
 }

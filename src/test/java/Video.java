@@ -22,4 +22,13 @@ final class Video {
             x.scan();
         }
     }
+
+    /** The pixels of a line from one column to before another, a hexadecimal digit each. */
+    static String line(SlotScreen x, int y, int from, int to) {
+        StringBuilder s = new StringBuilder();
+        for (int c = from; c < to; c++) {
+            s.append(Integer.toHexString(x.pixel(c, y)));
+        }
+        return s.toString();
+    }
 }
