@@ -21,6 +21,7 @@ public final class DeviceEdgesTest {
         plugLooksAtBanksForKind3Alone();
         plugNeedsThePart();
         plugNeedsAnEmptyPart();
+        plugUntilAllIsFull();
         burnNeedsADevice();
         burnNeedsThePart();
         burnTakesAddressesOfRom();
@@ -220,6 +221,34 @@ public final class DeviceEdgesTest {
                 DUE.isTaken("part 2", () -> x.plug(2, 2, k, 8));
                 x.plug(3, 0, first, 8);
                 DUE.isStateFault("plain, kind " + k + " where kind " + first + " is", () -> x.plug(3, 0, k, 8));
+            }
+        }
+    }
+
+    private static void plugUntilAllIsFull() {
+        DUE.by("In each part there is a DEVICE, or none");
+        for (int kind = 1; kind <= 4; kind++) {
+            SlotScreen x = new SlotScreen();
+            for (int slot = 0; slot < 4; slot++) {
+                x.widen(slot);
+                for (int part = 0; part < 4; part++) {
+                    x.plug(slot, part, kind, 1);
+                }
+            }
+            for (int n = 0; n < 16; n++) {
+                int slot = n / 4;
+                int part = n % 4;
+                int k = kind;
+                DUE.isStateFault("one more in " + slot + " " + part, () -> x.plug(slot, part, k, 1));
+                x.out(2, 85 * slot);
+                x.write(255, 85 * part);
+                x.burn(slot, part, 0, n + 1);
+                x.write(kind == BANKS ? 64 : 0, n + 1);
+            }
+            // Each has bytes of its own.
+            for (int n = 0; n < 16; n++) {
+                DUE.is("kind " + kind + " in " + n / 4 + " " + n % 4,
+                        x.far(n / 4, n % 4, kind == BANKS ? 64 : 0), n + 1);
             }
         }
     }

@@ -14,6 +14,7 @@ public final class SpriteEdgesTest {
         y208EndsTheFifth();
         topLine();
         leftColumn();
+        leftColumnFromC128On();
         sizes();
         rowsOf8ByNModulo16();
         rowsOf8ByR6Modulo4();
@@ -184,6 +185,15 @@ public final class SpriteEdgesTest {
                     DUE.is("X " + column + " C " + look + " R1 " + r1, Video.line(x, 0, 0, 64), want.toString());
                 }
             }
+        }
+    }
+
+    private static void leftColumnFromC128On() {
+        DUE.by("its left column X, or, if C is 128 or more, X - 32");
+        // C 128 has color 0, so only its touching another sprite tells where it is.
+        for (int look = 0; look < 256; look++) {
+            DUE.is("C " + look + " at X", twoAt(0, 40, look, 40, 1).chip(8), look < 128 ? 32 : 0);
+            DUE.is("C " + look + " at X - 32", twoAt(0, 40, look, 8, 1).chip(8), look < 128 ? 0 : 32);
         }
     }
 
