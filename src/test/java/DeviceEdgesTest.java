@@ -26,6 +26,7 @@ public final class DeviceEdgesTest {
         burnNeedsThePart();
         burnTakesAddressesOfRom();
         burnTakesPlacesOfBanks();
+        burnLeavesTheWindows();
         burnTakesBytes();
         ramHas256Bytes();
         romHas256Bytes();
@@ -345,6 +346,26 @@ public final class DeviceEdgesTest {
         for (int place = 0; place < 256; place += 5) {
             y.write(160, place / 32);
             DUE.is("place " + place, y.read(160 + place % 32), 255 - place);
+        }
+    }
+
+    private static void burnLeavesTheWindows() {
+        DUE.by("burn: Puts a byte .. into BANKS at a place");
+        for (int w = 0; w < 4; w++) {
+            SlotScreen x = withBanks(8);
+            x.write(64 + 32 * w, 7);
+            for (int place = 0; place < 256; place += 17) {
+                DUE.is("burn at " + place, x.burn(0, 0, place, 200), true);
+            }
+            // Of its own bytes only the last one of bank 7 has been burnt over.
+            DUE.is("window " + w, x.read(64 + 32 * w), 8);
+            DUE.is("its last byte", x.read(95 + 32 * w), 200);
+            for (int other = 0; other < 4; other++) {
+                if (other != w) {
+                    DUE.is("window " + other, x.read(64 + 32 * other), other == 0 ? 200 : other + 1);
+                    DUE.is("its last byte", x.read(95 + 32 * other), other + 101);
+                }
+            }
         }
     }
 

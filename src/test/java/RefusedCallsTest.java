@@ -24,8 +24,12 @@ public final class RefusedCallsTest {
     public static void main(String[] args) {
         viewsTellChangesApart();
         new RefusedCallsTest("new", x -> { }).onANewObject();
-        onAUsedObject(new RefusedCallsTest("none waits", RefusedCallsTest::noneWaits));
-        onAUsedObject(new RefusedCallsTest("a byte waits", RefusedCallsTest::aByteWaits));
+        RefusedCallsTest none = new RefusedCallsTest("none waits", RefusedCallsTest::noneWaits);
+        none.leaves(SlotScreen.NONE, "chip", 11);
+        onAUsedObject(none);
+        RefusedCallsTest one = new RefusedCallsTest("a byte waits", RefusedCallsTest::aByteWaits);
+        one.leaves(135, "chip", 11);
+        onAUsedObject(one);
         DUE.end();
     }
 
@@ -252,6 +256,8 @@ public final class RefusedCallsTest {
 
     private void looks() {
         leaves(FULL_STATUS, "chip", 8);
+        leaves(0, "chip", 0);
+        leaves(511, "chip", 9);
         leaves(41, "chip", 10);
         leaves(42, "video", 511);
         leaves(Call.TRUE, "calls");
